@@ -162,16 +162,19 @@ public final class NumberStreams {
     }
 
     public long coordinate(int d) {
-        if (d < 0 || d > 5) {
-            return -1;
+        switch (d) {
+            case 0:
+            case 1:
+            case 2:
+            case 3:
+                return asNumber(points.joinedDirections(d));
+            case 4:
+                return points.turnedDigits(3, 13);
+            case 5:
+                return points.turnedDigits(5, 9);
+            default:
+                return -1;
         }
-        if (d == 4) {
-            return points.turnedDigits(3, 13);
-        }
-        if (d == 5) {
-            return points.turnedDigits(5, 9);
-        }
-        return asNumber(points.joinedDirections(d));
     }
 
     public boolean weigh(int outcome, int w) {
@@ -198,9 +201,9 @@ public final class NumberStreams {
         }
         for (int i = PLACE_COUNT - 1; i >= 1; i--) {
             int place = stream.drawnBelow(i + 1);
-            int card = cards[i];
+            int held = cards[i];
             cards[i] = cards[place];
-            cards[place] = card;
+            cards[place] = held;
         }
         return true;
     }
@@ -261,6 +264,7 @@ public final class NumberStreams {
         static final int LAST_KIND = 3;
         private static final int MOST_WORDS_OF_A_DRAW = 8;
         private static final long MODULUS = 2147483647L;
+        private static final long LAST_COUNTER = 0x7FFFFFFFFFFFFFFFL;
 
         final int kind;
         long first;
@@ -343,7 +347,7 @@ public final class NumberStreams {
                     moveRotations();
                     break;
                 case 2:
-                    second = (second + 1) & Long.MAX_VALUE;
+                    second = second == LAST_COUNTER ? 0 : second + 1;
                     break;
                 default:
                     long remainder = nextRemainder();
@@ -497,6 +501,7 @@ public final class NumberStreams {
             }
         }
 
+        /** A first m that the row's degree does not give is told as 0: growing writes over it. */
         private void startRow(int row, int m1, int m2, int m3) {
             directions[row][0] = m1;
             directions[row][1] = m2;

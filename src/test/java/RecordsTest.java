@@ -1,3 +1,5 @@
+import java.util.Arrays;
+
 /** Promises 9 to 14: records, how they are spoiled, and what a restore thinks of them. */
 public final class RecordsTest {
     private static final int[] NO_RECORDS = {-1, 1, 6, 7, Integer.MIN_VALUE, Integer.MAX_VALUE};
@@ -70,7 +72,7 @@ public final class RecordsTest {
             x.make(kind, kind == 3 ? 0x10000001 : 0x90000001, kind == 3 ? 0x20000002 : 0xA0000002);
             x.save(0);
             int last = SIZES[kind] - 1;
-            int[] body = java.util.Arrays.copyOf(wanted[kind], last);
+            int[] body = Arrays.copyOf(wanted[kind], last);
             for (int i = 0; i < last; i++) {
                 due.is("kind " + kind + ": word(0, " + i + ")", x.word(0, i), body[i]);
             }
@@ -156,6 +158,8 @@ public final class RecordsTest {
             x.next(3);
             due.is("restored streams go on alike", x.same(0, 3), true);
             due.is("restored streams are apart", x.same(1, 2), true);
+            x.release(0);
+            due.is("restore(0) into slot 0", x.restore(0), 0);
         }
     }
 

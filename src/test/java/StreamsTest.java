@@ -207,6 +207,10 @@ public final class StreamsTest {
         due.is("after 2^63 - 1 comes 0 by a jump", last.same(2, 3), true);
         words("kind 2 after its end", last, 1, 0xFF1DAE59L, 0x6CD10DF2L);
 
+        NumberStreams far = Forge.withRecord(2, 0, 0x2468ACF1, 0x3579BDF0);
+        far.restore(0);
+        words("kind 2, a great p", far, 1, 3580964320L, 1477332993L, 56853571L);
+
         NumberStreams carry = new NumberStreams();
         carry.make(2, 5, -1);
         carry.next(0);
