@@ -21,15 +21,20 @@ final class Forge {
         x.spoil(record, words.length, x.word(record, words.length) ^ check(words));
     }
 
+    /** The head of a kind, a state and their check. */
+    static void writeState(NumberStreams x, int record, int kind, int... state) {
+        int[] words = new int[state.length + 1];
+        words[0] = HEAD + kind;
+        System.arraycopy(state, 0, words, 1, state.length);
+        write(x, record, words);
+    }
+
     /** An object whose record 0 is forged; its slot 0 holds a stream of the kind. */
     static NumberStreams withRecord(int kind, int... state) {
         NumberStreams x = new NumberStreams();
         x.make(kind, 1, 1);
         x.save(0);
-        int[] words = new int[state.length + 1];
-        words[0] = HEAD + kind;
-        System.arraycopy(state, 0, words, 1, state.length);
-        write(x, 0, words);
+        writeState(x, 0, kind, state);
         return x;
     }
 }
