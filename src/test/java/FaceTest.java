@@ -26,6 +26,15 @@ public final class FaceTest {
             }
         }
         due.is("the methods " + seen, seen.equals(FACE), true);
+        for (Method method : type.getDeclaredMethods()) {
+            boolean isSecond = Modifier.isPrivate(method.getModifiers()) && isFaceName(method.getName());
+            due.is(method + " bears a public name", isSecond, false);
+        }
+        for (Class<?> inside : type.getDeclaredClasses()) {
+            int modifiers = inside.getModifiers();
+            due.is(inside + " is static", Modifier.isStatic(modifiers), true);
+            due.is(inside + " is open", Modifier.isPublic(modifiers) || Modifier.isProtected(modifiers), false);
+        }
         Constructor<?>[] constructors = type.getDeclaredConstructors();
         due.is("constructors", constructors.length, 1);
         due.is("its parameters", constructors[0].getParameterCount(), 0);
@@ -34,6 +43,10 @@ public final class FaceTest {
             due.is(field + " is private", Modifier.isPrivate(field.getModifiers()), true);
         }
         due.end();
+    }
+
+    private static boolean isFaceName(String name) {
+        return FACE.stream().anyMatch(method -> method.contains(" " + name + "("));
     }
 
     private static String told(Method method) {

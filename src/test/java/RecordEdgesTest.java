@@ -333,6 +333,8 @@ public final class RecordEdgesTest {
             due.is("kind " + kind + ": cut(0) again", x.cut(0), false);
             due.is("kind " + kind + ": length(0)", x.length(0), 0);
             due.is("kind " + kind + ": the next save", x.save(0), 1);
+            due.is("kind " + kind + ": length(1)", x.length(1), SIZES[kind]);
+            due.is("kind " + kind + ": length(0) still", x.length(0), 0);
         }
     }
 

@@ -1,3 +1,5 @@
+import java.util.Arrays;
+
 /** The edges of promises 1 to 6 and 8: slots that are free, taken or none, the fullest object, the longest jump. */
 public final class SlotEdgesTest {
     private static final int LEAST = Integer.MIN_VALUE;
@@ -15,6 +17,7 @@ public final class SlotEdgesTest {
         test.anObjectLastsForItsCalls();
         test.makeTakesEachSlot();
         test.makeFillsTheLeastGap();
+        test.makeForgetsWhatWasThere();
         test.makeRefusesKinds();
         test.makeRefusesWhenFull();
         test.makeRefusesStates();
@@ -29,6 +32,7 @@ public final class SlotEdgesTest {
         test.nextRefusesSlots();
         test.jumpOfNothing();
         test.jumpAtItsLongest();
+        test.jumpsOfEachPowerOfTwo();
         test.jumpRefusesLengths();
         test.jumpRefusesSlots();
         test.sameOfOneSlot();
@@ -140,6 +144,26 @@ public final class SlotEdgesTest {
             x.release(gap);
             due.is("make into the gap " + gap, x.make(1, 1, 1), gap);
             due.is("the next make", x.make(1, 1, 1), gap == 7 ? -1 : 7);
+        }
+    }
+
+    private void makeForgetsWhatWasThere() {
+        due.sentence("Promise 2: The state: (of the new stream alone)");
+        for (int before = 0; before < 4; before++) {
+            for (int kind = 0; kind < 4; kind++) {
+                NumberStreams x = new NumberStreams();
+                x.make(before, 1234567, 7654321);
+                x.jump(0, 9);
+                x.release(0);
+                x.make(kind, 5, 6);
+                NumberStreams y = new NumberStreams();
+                y.make(kind, 5, 6);
+                x.save(0);
+                y.save(0);
+                for (int i = 0; i < 6; i++) {
+                    due.is("kind " + kind + " after kind " + before + ", word " + i, x.word(0, i), y.word(0, i));
+                }
+            }
         }
     }
 
@@ -326,6 +350,32 @@ public final class SlotEdgesTest {
             x.save(0);
             for (int i = 0; i < states[kind].length; i++) {
                 due.is("kind " + kind + ", state word " + i, x.word(0, i + 1), states[kind][i]);
+            }
+        }
+    }
+
+    /** A jump of 1 is a step, each power is two of the power before, and one less is a step less. */
+    private void jumpsOfEachPowerOfTwo() {
+        due.sentence("Promise 6: Changes the state as k steps would");
+        int[][] states = {{0, -1, -1, -1, -1}, {0, LEAST, 1, 0, 1}, {1, -1, LEAST}, {1, 0, 1}, {2, -1, MOST, -40000},
+            {2, 5, 0, -40000}, {3, MOST - 1, MOST - 1}, {3, 0, 1}};
+        for (int[] told : states) {
+            int kind = told[0];
+            NumberStreams x = Forge.withRecord(kind, Arrays.copyOfRange(told, 1, told.length));
+            for (int k = 1; k <= 32768; k *= 2) {
+                due.is("restore(0)", x.restore(0), 1);
+                due.is("restore(0)", x.restore(0), 2);
+                due.is("restore(0)", x.restore(0), 3);
+                x.jump(1, k);
+                x.jump(2, k / 2);
+                x.jump(2, k - k / 2);
+                x.jump(3, k - 1);
+                x.next(3);
+                due.is("kind " + kind + ", " + k + " is twice its half", x.same(1, 2), true);
+                due.is("kind " + kind + ", one less than " + k + " is a step less", x.same(1, 3), true);
+                x.release(1);
+                x.release(2);
+                x.release(3);
             }
         }
     }
